@@ -147,7 +147,7 @@ public final class ModelTest {
                 text.append(i == 0 ? "" : ";").append(clause);
             }
         }
-        if (random.nextInt(3) == 0) {
+        if (text.length() > 0 && random.nextInt(3) == 0) {
             spoil(text);
         }
         return text.toString();

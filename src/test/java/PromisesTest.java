@@ -134,6 +134,13 @@ public final class PromisesTest {
         due("sixth fault", park("x"), -4);
         due("tape stays", x.count(5), 7);
         due("still the newest holds", x.told(1), 4);
+        fresh();
+        park("rain 12;calm 5 p=0");
+        due("a shorter one behind a longer one", park("rain 1"), 1);
+        due("its rain", x.told(1), 1);
+        x.walker(0, 0, 0, 0);
+        due("the longer one's calm is gone", x.of(0, 8), 0);
+        due("a shorter fault", park("rain "), -15);
     }
 
     private static void parkFaults() {
@@ -217,6 +224,16 @@ public final class PromisesTest {
             due("calm by " + test, swayOf(0, "calm 7 " + test), 0);
         }
         due("all together", swayOf(0, "stir 7 p=0;calm 3 p=0;stir 99 p=1;stir 20 v=5"), 24);
+        for (int kind = 0; kind < 7; kind++) {
+            int stirred = swayOf(kind, "stir 8 k=" + kind);
+            due("k of kind " + kind, stirred - swayOf(kind, "stir 8 k<" + kind), kind == 2 || kind == 5 ? 16 : 8);
+        }
+        fresh();
+        park("stir 1 p=0;stir 2 p=1;stir 3 p=2;stir 4 p=3;stir 5 p=4;stir 6 p=5");
+        for (int i = 0; i < 6; i++) {
+            x.walker(0, i, 0, 0);
+            due("p of " + i, x.of(i, 8), i + 1);
+        }
         fresh();
         park("stir 50 s=3");
         x.walker(0, 0, 0, 0);
@@ -462,6 +479,11 @@ public final class PromisesTest {
         x.set(4, 0, 3);
         x.pass(1);
         due("away ones are not handed over", x.of(4, 5), 0);
+        x.road(0, 1 << 4);
+        x.set(2, 0, 3);
+        x.road(3, 0);
+        x.keep(1 << 4);
+        due("moved to mood 0", x.on(1, 22), 0);
         x.away(0, true);
         due("moved of all, away ones too", x.told(5), 3);
     }
@@ -471,6 +493,8 @@ public final class PromisesTest {
         due("no park", x.told(2), 0);
         park("rain 0");
         due("rain 0", x.told(2), 0);
+        park("rain 1");
+        due("rains always", x.on(5, 0) + x.told(2), 1);
         park("rain 3");
         due("rain", x.told(1), 3);
         due("rains at 0", x.told(2), 1);
@@ -578,6 +602,9 @@ public final class PromisesTest {
         due("posts 1, how much", x.posts(1, 1), 0);
         due("posts 2", x.posts(2, 0), 3);
         due("posts 3", x.posts(3, 0), 7);
+        postsOfRoads();
+        many(1);
+        x.road(1, 65535);
         x.keep(1 << 1);
         due("other keepers go", x.posts(0, 1), 12);
         due("keepers stay", x.told(3), 2);
@@ -603,6 +630,35 @@ public final class PromisesTest {
         x.road(1, 65535);
         x.keep(1 << 1);
         due("gravel may be taken up", x.gravel(), 1);
+    }
+
+    /** One that goes from cell 0 on to cell 11, wrong but where a keeper hands it over to the mood of the next four cells. */
+    private static void postsOfRoads() {
+        fresh();
+        x.walker(0, 0, 15, 0);
+        due("posts that change nothing", x.posts(2, 0), 3);
+        due("posts that change nothing, how much", x.posts(3, 1), 12);
+        x.road(1, 0xf);
+        x.road(2, 0xf0);
+        x.road(3, 0xf00);
+        int[] best = {0, 0x1, 0x11, 0x111};
+        for (int n = 0; n <= 3; n++) {
+            due("posts " + n, x.posts(n, 0), best[n]);
+            due("how much by posts " + n, x.posts(n, 1), 12 - 4 * n);
+        }
+        x.road(1, 0xe);
+        due("posts behind cell 0", x.posts(3, 0), 0x112);
+        due("how much behind cell 0", x.posts(3, 1), 1);
+        x.road(3, 0xe00);
+        due("posts behind cells 0 and 8", x.posts(3, 0), 0x212);
+        due("gravel among roads", x.gravel(), 0);
+        fresh();
+        x.walker(0, 0, 9, 0);
+        x.road(0, 65535 & ~(1 << 12) & ~(1 << 2));
+        x.road(1, 65535);
+        due("least trouble by a greater cell", x.posts(1, 0), 1 << 12);
+        due("no trouble left", x.posts(1, 1), 0);
+        due("gravel is one place only", x.gravel(), 2);
     }
 
     private static void seen() {
@@ -671,6 +727,7 @@ public final class PromisesTest {
         x.road(3, 1);
         due("odds 0 above", x.odds(0, 0, 0), 0);
         due("odds 0 below", x.odds(0, 0, 1), 1);
+        due("odds behind 60", x.odds(0, 60, 0), 1);
         due("odds of no one", x.odds(1, 0, 0), NO);
         due("odds of -1", x.odds(0, -1, 0), NO);
         due("odds of 61", x.odds(0, 61, 0), NO);
@@ -689,6 +746,7 @@ public final class PromisesTest {
         due("mean 1", x.mean(3, 1), 1);
         x.pass(1);
         due("mean of what is more", x.mean(2, 1), 2);
+        due("mean behind 60", x.mean(60, 0) * 10 + x.mean(60, 1), 72);
         due("mean of -1", x.mean(-1, 0), NO);
         due("mean of 61", x.mean(61, 0), NO);
         due("mean part 2", x.mean(0, 2), NO);
@@ -865,6 +923,25 @@ public final class PromisesTest {
         due("another in its place", x.walker(0, 1, 1, 1), 2);
         due("image of three", x.image(), 3);
         due("undo of three", x.undo(), 3);
+        fresh();
+        x.walker(0, 0, 0, 0);
+        x.road(0, 1);
+        x.see(0, 0, false);
+        x.plan(1, 0);
+        x.book(0, 0);
+        x.image();
+        x.see(-1, 0, false);
+        x.see(0, 1, true);
+        x.plan(-1, 0);
+        x.plan(3, 15);
+        x.book(-1, 0);
+        x.book(0, 3);
+        x.set(0, 0, 1);
+        due("otherwise", x.where(0) * 100 + x.looked() * 10 + x.done(0), 3276701);
+        x.undo();
+        due("seen as it was", x.where(0), 1);
+        due("plan as it was", x.done(0), 0);
+        due("book as it was", x.looked(), -5);
         fresh();
         x.image();
         x.walker(6, 1, 1, 1);
