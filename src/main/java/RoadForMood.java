@@ -571,7 +571,7 @@ public final class RoadForMood {
         }
 
         void add(int one, int two, int three) {
-            if (!isFull()) {
+            if (size >= 0 && size < first.length) {
                 first[size] = one;
                 second[size] = two;
                 third[size] = three;
