@@ -46,6 +46,9 @@ abstract class Edges {
 
     /** A refused call on an object as the supplier makes it: the answer that is due, and nothing has changed. */
     static void refused(String call, long want, Supplier<RoadForMood> made, ToLongFunction<RoadForMood> asked) {
+        if (faults.length() > 0) {
+            return; // a number just beyond was not refused: one far beyond may go on for hours
+        }
         RoadForMood one = made.get();
         due(call, asked.applyAsLong(one), want);
         alike(call, one, made.get());
