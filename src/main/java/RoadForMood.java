@@ -1,6 +1,6 @@
 /**
  * A park that is a ring of cells, with a road for each mood, and walkers whose mood changes as they go.
- * What every call answers is told, promise by promise, in DOC.md.
+ * What every call answers is told in README.md, and promise by promise in ../shared/DOC.md.
  */
 public final class RoadForMood {
     public static final int NONE = -1, BAD = -2, STATE = -3, FULL = -4;
@@ -10,7 +10,7 @@ public final class RoadForMood {
     private static final int CELLS = 16, MOODS = 4, KINDS = 7, ALL_CELLS = 65535;
     private static final int MOST_WALKERS = 6, MOST_PARKS = 5, MOST_V = 9, MOST_SIGN = 127;
     private static final int MOST_STEP = 9999, MOST_MOVED = 9999, MOST_AHEAD = 60, MOST_SEEN_AHEAD = 20;
-    private static final int MOST_POSTS = 3, MOST_SETS = 560;
+    private static final int MOST_POSTS = 3, MOST_SETS = 560, NO_LIMIT = 2147483647;
     private static final int PLAN_STEP = 0, PLAN_AWAY = 1, PLAN_BACK = 2, PLAN_KEEPER = 3;
 
     private final Rows ran;
@@ -39,7 +39,7 @@ public final class RoadForMood {
         fresh = new Park(sums);
         now = new Whole(held, all);
         kept = new Whole(new Park(sums), all);
-        trial = new Ring(held, all, Integer.MAX_VALUE);
+        trial = new Ring(held, all, NO_LIMIT);
     }
 
     // ---- parks, roads, walkers
@@ -178,7 +178,7 @@ public final class RoadForMood {
             case 3: return ring.keepers;
             case 4: return ring.wrongOnes();
             case 5: return ring.movedOfAll();
-            case 6: return startTrial().trouble(Integer.MAX_VALUE);
+            case 6: return startTrial().trouble(NO_LIMIT);
             case 7: return ring.onAnyRoad();
             case 8: return ring.onJustOneRoad();
             default: return NONE;
@@ -256,7 +256,7 @@ public final class RoadForMood {
         if (n < 0 || n > MOST_POSTS) {
             return BAD;
         }
-        int least = Integer.MAX_VALUE;
+        int least = NO_LIMIT;
         int best = 0;
         int posts = (1 << n) - 1;
         for (int tries = 0; tries < MOST_SETS && posts <= ALL_CELLS && least > 0; tries++) {
@@ -273,7 +273,7 @@ public final class RoadForMood {
     }
 
     public int gravel() {
-        int least = startTrial().trouble(Integer.MAX_VALUE);
+        int least = startTrial().trouble(NO_LIMIT);
         int best = NEVER;
         for (int mood = 0; mood < MOODS; mood++) {
             for (int cell = 0; cell < CELLS && least > 0; cell++) {

@@ -19,6 +19,9 @@ public final class LanguageTest {
     private static final String[] RULED_OUT = {"throw", "throws", "try", "catch", "finally", "synchronized", "assert",
         "import", "package", "protected", "volatile", "transient", "native", "strictfp", "equals", "hashCode", "toString",
         "Object", "System\\.(?!arraycopy)", "->", "::", "@", "Exact", "while"};
+    private static final Pattern LIBRARY = Pattern.compile("\\b(Integer|Long|Math|System|Arrays|String|Character|Boolean)\\.\\w+\\(?");
+    private static final Pattern LISTED = Pattern.compile("(Integer|Long|Math)\\.[a-z]\\w*\\(|System\\.arraycopy\\("
+        + "|Arrays\\.(copyOf|copyOfRange|fill)\\(|Long\\.MIN_VALUE");
     private static int passed = 0;
     private static int failed = 0;
 
@@ -38,6 +41,10 @@ public final class LanguageTest {
             String edge = Character.isLetter(word.charAt(0)) ? "\\b" : "";
             Matcher found = Pattern.compile(edge + word + (edge.isEmpty() || word.endsWith(")") ? "" : "\\b")).matcher(code);
             holds(!found.find(), "ruled out: " + word);
+        }
+        Matcher used = LIBRARY.matcher(code);
+        while (used.find()) {
+            holds(LISTED.matcher(used.group()).matches(), "not in the library's list: " + used.group());
         }
         holds(source.chars().allMatch(c -> c < 128), "a sign beyond 127");
         holds(RoadForMood.class.getDeclaredClasses().length + 1 <= 12, "more than twelve classes");
